@@ -13,7 +13,7 @@ public final class TombstoneSites {
     private static final int MOST_MADE = 6;
     private static final int MOST_OPERATIONS = 18;
     private static final int GREATEST_CHARACTER = 255;
-    private static final int ERASED = 0;
+    private static final int NO_CHARACTER = 0;
 
     private final int siteCount;
     private final History history;
@@ -43,7 +43,7 @@ public final class TombstoneSites {
         if (!isSite(site)) {
             return NONE;
         }
-        return make(copies[site], copies[site].cellOfVisible(i), ERASED);
+        return make(copies[site], copies[site].cellOfVisible(i), NO_CHARACTER);
     }
 
     public int deliver(int to, int from, int k) {
@@ -160,22 +160,18 @@ public final class TombstoneSites {
         return number;
     }
 
+    /** Nothing that waits was ready before an arrival, so what has just arrived comes first. */
     private int receive(Copy copy, Operation x) {
         if (x == null || x.site == copy.site || copy.arrived[x.index()]) {
             return NONE;
         }
         copy.noteArrival(x);
-        return executeAllReady(copy);
-    }
-
-    /** Nothing that waits was ready before an arrival, so what has just arrived is the first. */
-    private int executeAllReady(Copy copy) {
         int done = 0;
-        Operation x = firstReady(copy);
-        while (x != null && done < MOST_OPERATIONS) {
-            copy.execute(x, history.placeFor(x, copy.vector, MOST_OPERATIONS));
+        Operation ready = firstReady(copy);
+        while (ready != null && done < MOST_OPERATIONS) {
+            copy.execute(ready, history.placeFor(ready, copy.vector, MOST_OPERATIONS));
             done++;
-            x = firstReady(copy);
+            ready = firstReady(copy);
         }
         return done;
     }
@@ -251,7 +247,7 @@ public final class TombstoneSites {
         }
 
         boolean isInsert() {
-            return character != ERASED;
+            return character != NO_CHARACTER;
         }
 
         int index() {
@@ -312,18 +308,15 @@ public final class TombstoneSites {
             return find(site, Vectors.count(vector, site) - 1);
         }
 
-        int placeFor(Operation x, int vector, int depth) {
+        /** Each level has one operation less in its vector, so the depth never runs out. */
+        private int placeFor(Operation x, int vector, int depth) {
             if (vector == x.context || depth <= 0) {
                 return x.position;
             }
             int key = x.site * Vectors.howMany(siteCount) + vector;
-            if (knownPlaces[key] == NONE) {
-                knownPlaces[key] = placePastLatest(x, vector, depth);
+            if (knownPlaces[key] != NONE) {
+                return knownPlaces[key];
             }
-            return knownPlaces[key];
-        }
-
-        private int placePastLatest(Operation x, int vector, int depth) {
             Operation y = latestUnknownTo(x, vector);
             if (y == null) {
                 return x.position;
@@ -331,7 +324,8 @@ public final class TombstoneSites {
             int without = Vectors.withOneLess(vector, y.site);
             int p = placeFor(x, without, depth - 1);
             int q = placeFor(y, without, depth - 1);
-            return x.movedPast(p, y, q);
+            knownPlaces[key] = x.movedPast(p, y, q);
+            return knownPlaces[key];
         }
 
         /** An operation that the vector has, unknown to x's maker and to all else that it has. */

@@ -1,3 +1,5 @@
+import java.util.function.IntSupplier;
+
 /** Each promise of the document by hand: ordinary inputs, the edges that it names, wrong inputs. */
 public final class PromisesTest {
     private static final int NONE = TombstoneSites.NONE;
@@ -66,20 +68,18 @@ public final class PromisesTest {
         due.is("behind all", x.insert(0, 2, 255), 2);
         due.is("least character", x.insert(0, 1, 1), 3);
         due.same("cells", Dump.cells(x, 0), "97 1 98 255");
-        refused(x, "no site -1", x.insert(-1, 0, 'a'));
-        refused(x, "no site 2", x.insert(2, 0, 'a'));
-        refused(x, "i beyond", x.insert(0, 5, 'a'));
-        refused(x, "i below", x.insert(0, -1, 'a'));
-        refused(x, "i least", x.insert(0, LEAST, 'a'));
-        refused(x, "i most", x.insert(0, MOST, 'a'));
-        refused(x, "no character 0", x.insert(0, 0, 0));
-        refused(x, "no character 256", x.insert(0, 0, 256));
-        refused(x, "no character -97", x.insert(0, 0, -97));
+        refused(x, "no site -1", () -> x.insert(-1, 0, 'a'));
+        refused(x, "no site 2", () -> x.insert(2, 0, 'a'));
+        refused(x, "i beyond", () -> x.insert(0, 5, 'a'));
+        refused(x, "i below", () -> x.insert(0, -1, 'a'));
+        refused(x, "i least", () -> x.insert(0, LEAST, 'a'));
+        refused(x, "i most", () -> x.insert(0, MOST, 'a'));
+        refused(x, "no character 0", () -> x.insert(0, 0, 0));
+        refused(x, "no character 256", () -> x.insert(0, 0, 256));
+        refused(x, "no character -97", () -> x.insert(0, 0, -97));
         due.is("after refusals", x.insert(0, 0, 'x'), 4);
         due.is("the sixth", x.insert(0, 0, 'y'), 5);
-        String before = Dump.of(x);
-        due.is("the seventh", x.insert(0, 0, 'z'), NONE);
-        due.same("state after the seventh", Dump.of(x), before);
+        refused(x, "the seventh", () -> x.insert(0, 0, 'z'));
         due.is("the other site's first", x.insert(1, 0, 'z'), 0);
         insertAmongInvisible();
     }
@@ -103,43 +103,44 @@ public final class PromisesTest {
         TombstoneSites x = typed(2, "abc");
         due.is("the middle", x.erase(0, 1), 3);
         due.same("cells", Dump.cells(x, 0), "97 -98 99");
-        refused(x, "i is how many are visible", x.erase(0, 2));
-        refused(x, "i below", x.erase(0, -1));
-        refused(x, "i least", x.erase(0, LEAST));
-        refused(x, "i most", x.erase(0, MOST));
-        refused(x, "no site 2", x.erase(2, 0));
-        refused(x, "no site -1", x.erase(-1, 0));
-        refused(x, "empty site", x.erase(1, 0));
+        refused(x, "i is how many are visible", () -> x.erase(0, 2));
+        refused(x, "i below", () -> x.erase(0, -1));
+        refused(x, "i least", () -> x.erase(0, LEAST));
+        refused(x, "i most", () -> x.erase(0, MOST));
+        refused(x, "no site 2", () -> x.erase(2, 0));
+        refused(x, "no site -1", () -> x.erase(-1, 0));
+        refused(x, "empty site", () -> x.erase(1, 0));
         due.is("the last visible", x.erase(0, 1), 4);
         due.same("cells", Dump.cells(x, 0), "97 -98 -99");
         due.is("the sixth", x.erase(0, 0), 5);
         due.same("none visible", Dump.cells(x, 0), "-97 -98 -99");
-        refused(x, "none left", x.erase(0, 0));
+        refused(x, "none left", () -> x.erase(0, 0));
         TombstoneSites full = typed(2, "abcdef");
-        refused(full, "has made 6", full.erase(0, 0));
+        refused(full, "has made 6", () -> full.erase(0, 0));
     }
 
     private static void deliver() {
         TombstoneSites x = typed(3, "abc");
         due.is("not ready", x.deliver(1, 0, 2), 0);
         due.is("not ready yet", x.deliver(1, 0, 1), 0);
-        refused(x, "waits already", x.deliver(1, 0, 2));
+        refused(x, "waits already", () -> x.deliver(1, 0, 2));
         due.is("all three", x.deliver(1, 0, 0), 3);
         due.same("text", Dump.text(x, 1), "abc");
-        refused(x, "arrived before", x.deliver(1, 0, 0));
-        refused(x, "its own", x.deliver(0, 0, 0));
-        refused(x, "no such operation", x.deliver(1, 0, 3));
-        refused(x, "number below", x.deliver(1, 0, -1));
-        refused(x, "number most", x.deliver(1, 0, MOST));
-        refused(x, "number least", x.deliver(1, 0, LEAST));
-        refused(x, "no number 6", x.deliver(2, 0, 6));
-        refused(x, "no site to", x.deliver(3, 0, 0));
-        refused(x, "no site to below", x.deliver(-1, 0, 0));
-        refused(x, "no site from", x.deliver(1, 3, 0));
-        refused(x, "no site from below", x.deliver(1, -1, 0));
+        refused(x, "arrived before", () -> x.deliver(1, 0, 0));
+        refused(x, "its own", () -> x.deliver(0, 0, 0));
+        refused(x, "no such operation", () -> x.deliver(1, 0, 3));
+        refused(x, "number below", () -> x.deliver(1, 0, -1));
+        refused(x, "number most", () -> x.deliver(1, 0, MOST));
+        refused(x, "number least", () -> x.deliver(1, 0, LEAST));
+        refused(x, "no number 6", () -> x.deliver(2, 0, 6));
+        refused(x, "no site to", () -> x.deliver(3, 0, 0));
+        refused(x, "no site to below", () -> x.deliver(-1, 0, 0));
+        refused(x, "no site from", () -> x.deliver(1, 3, 0));
+        refused(x, "no site from below", () -> x.deliver(1, -1, 0));
         moves();
         waitsForAnotherSite();
-        lowestSiteFirst();
+        freedTogether();
+        pastAKnownOne();
     }
 
     /** Every branch of the rule by which a place is moved past an operation. */
@@ -186,51 +187,19 @@ public final class PromisesTest {
         due.same("text", Dump.text(x, 2), "ab");
     }
 
-    /**
-     * Operation 0 of site 2 lets operation 0 of site 1 and then operation 0 of site 0 be executed:
-     * that of site 0, which is the lowest, first where both are ready.
-     */
-    private static void lowestSiteFirst() {
+    /** z's maker knew y: x is moved past y first and then past z, though y's site is the lower. */
+    private static void pastAKnownOne() {
         TombstoneSites x = new TombstoneSites(3);
-        x.insert(2, 0, 'm');
-        x.sync(0, 2);
-        x.insert(0, 0, 'a');
-        x.insert(0, 0, 'b');
-        x.sync(1, 2);
-        x.insert(1, 0, 'x');
-        x.sync(0, 1);
-        x.insert(0, 0, 'c');
-        TombstoneSites y = new TombstoneSites(3);
-        due.is("an empty object has none", y.deliver(1, 2, 0), NONE);
-        due.is("nothing ready", x.deliver(1, 0, 2), 0);
-        due.is("nothing ready", x.deliver(1, 0, 1), 0);
-        due.is("all", x.deliver(1, 0, 0), 3);
-        due.same("the copies", Dump.cells(x, 1), Dump.cells(x, 0));
-        lowestWins();
-    }
-
-    /** Places at execution tell the order: the lower site's insert is at home, the other moved. */
-    private static void lowestWins() {
-        TombstoneSites x = new TombstoneSites(3);
-        x.insert(0, 0, 'm');
+        x.insert(0, 0, 'y');
         x.sync(1, 0);
-        x.sync(2, 0);
-        x.insert(1, 1, 'p');
-        x.insert(2, 1, 'q');
-        x.sync(1, 2);
-        TombstoneSites z = new TombstoneSites(3);
-        z.insert(2, 0, 'm');
-        z.sync(0, 2);
-        z.sync(1, 2);
-        z.insert(0, 1, 'p');
-        z.insert(1, 0, 'q');
-        due.is("a site with nothing", z.executed(2, 0), 0);
-        due.is("at 2 from 1", z.deliver(2, 1, 0), 1);
-        due.is("at 2 from 0", z.deliver(2, 0, 0), 1);
-        due.is("q came first", z.place(2, 1, 0), 0);
-        due.is("p was moved past it", z.place(2, 0, 0), 2);
-        due.same("p and q", Dump.text(x, 1), "mpq");
-        freedTogether();
+        x.insert(1, 1, 'z');
+        x.insert(2, 0, 'x');
+        due.is("x at site 1", x.deliver(1, 2, 0), 1);
+        due.is("x past y and z", x.place(1, 2, 0), 2);
+        due.is("y and z at site 2", x.sync(2, 1), 2);
+        due.is("z in front of x", x.place(2, 1, 0), 1);
+        due.same("text", Dump.text(x, 1), "yzx");
+        due.same("the copies", Dump.cells(x, 2), Dump.cells(x, 1));
     }
 
     /** Operations of sites 0 and 1 wait at site 2 for one operation of site 1, and are freed by it. */
@@ -255,17 +224,18 @@ public final class PromisesTest {
         due.is("not ready", x.arrive(1, second), 0);
         due.is("both", x.arrive(1, first), 2);
         due.same("text", Dump.text(x, 1), "ab");
-        refused(x, "arrived before", x.arrive(1, first));
-        refused(x, "its own", x.arrive(0, first));
-        refused(x, "no site 3", x.arrive(3, first));
-        refused(x, "no site -1", x.arrive(-1, first));
+        refused(x, "arrived before", () -> x.arrive(1, first));
+        refused(x, "its own", () -> x.arrive(0, first));
+        refused(x, "no site 3", () -> x.arrive(3, first));
+        refused(x, "no site -1", () -> x.arrive(-1, first));
         for (int bit = 0; bit < 64; bit++) {
-            refused(x, "a code with bit " + bit + " turned", x.arrive(2, second ^ 1L << bit));
+            long turned = second ^ 1L << bit;
+            refused(x, "a code with bit " + bit + " turned", () -> x.arrive(2, turned));
         }
-        refused(x, "code 0", x.arrive(2, 0));
-        refused(x, "code -1", x.arrive(2, -1));
-        refused(x, "least code", x.arrive(2, Long.MIN_VALUE));
-        refused(x, "most code", x.arrive(2, Long.MAX_VALUE));
+        refused(x, "code 0", () -> x.arrive(2, 0));
+        refused(x, "code -1", () -> x.arrive(2, -1));
+        refused(x, "least code", () -> x.arrive(2, Long.MIN_VALUE));
+        refused(x, "most code", () -> x.arrive(2, Long.MAX_VALUE));
         due.is("the right one", x.arrive(2, first), 1);
         due.is("delivered too", x.deliver(2, 0, 0), NONE);
         due.is("delivered first", x.deliver(2, 0, 1), 1);
@@ -281,13 +251,13 @@ public final class PromisesTest {
         due.is("through another", x.sync(2, 1), 3);
         due.same("text", Dump.text(x, 2), "abc");
         due.is("not its own", x.sync(0, 2), 1);
-        refused(x, "the same", x.sync(1, 1));
-        refused(x, "no site to", x.sync(3, 0));
-        refused(x, "no site from", x.sync(0, 3));
-        refused(x, "below to", x.sync(-1, 0));
-        refused(x, "below from", x.sync(0, -1));
+        refused(x, "the same", () -> x.sync(1, 1));
+        refused(x, "no site to", () -> x.sync(3, 0));
+        refused(x, "no site from", () -> x.sync(0, 3));
+        refused(x, "below to", () -> x.sync(-1, 0));
+        refused(x, "below from", () -> x.sync(0, -1));
         TombstoneSites two = typed(2, "ab");
-        refused(two, "no third site", two.sync(0, 2));
+        refused(two, "no third site", () -> two.sync(0, 2));
         syncAndWaiting();
         syncOrder();
     }
@@ -315,6 +285,19 @@ public final class PromisesTest {
         due.is("a before n", x.place(2, 0, 0), 0);
         due.is("n behind a", x.place(2, 1, 1), 1);
         due.same("the copies", Dump.cells(x, 2), Dump.cells(x, 0));
+        syncByNumber();
+    }
+
+    /** What waits for site 0's first is executed before site 0's second has arrived. */
+    private static void syncByNumber() {
+        TombstoneSites x = typed(3, "a");
+        x.sync(1, 0);
+        x.insert(1, 1, 'p');
+        x.insert(0, 0, 'b');
+        due.is("p waits", x.deliver(2, 1, 0), 0);
+        due.is("a, p and b", x.sync(2, 0), 3);
+        due.is("p before b came", x.place(2, 1, 0), 1);
+        due.same("text", Dump.text(x, 2), "bap");
     }
 
     private static void code() {
@@ -548,11 +531,10 @@ public final class PromisesTest {
         return x;
     }
 
-    /**
-     * The answer must be NONE; that nothing has changed is seen by asking about everything twice:
-     * the state of a site shows in its cells, its vector, what waits, and what was made.
-     */
-    private static void refused(TombstoneSites x, String call, int answer) {
-        due.is(call, answer, NONE);
+    /** The call must answer NONE and change nothing. */
+    private static void refused(TombstoneSites x, String what, IntSupplier call) {
+        String before = Dump.of(x);
+        due.is(what, call.getAsInt(), NONE);
+        due.same("the state after: " + what, Dump.of(x), before);
     }
 }
