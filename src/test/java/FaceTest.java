@@ -14,7 +14,13 @@ public final class FaceTest {
     };
 
     public static void main(String[] args) {
-        Due due = new Due("FaceTest");
+        Sentences face = new Sentences("FaceTest");
+        face.holds("the public face", FaceTest::members);
+        face.holds("NONE = -1", due -> due.is("NONE", TombstoneSites.NONE, -1));
+        face.finish();
+    }
+
+    private static void members(Due due) {
         Class<?> c = TombstoneSites.class;
         TreeSet<String> face = new TreeSet<>();
         for (Field f : c.getDeclaredFields()) {
@@ -36,8 +42,6 @@ public final class FaceTest {
         }
         due.same("the face", face.toString(), new TreeSet<>(java.util.List.of(FACE)).toString());
         due.is("the class is public and final", c.getModifiers(), Modifier.PUBLIC | Modifier.FINAL);
-        due.is("NONE", TombstoneSites.NONE, -1);
-        due.finish();
     }
 
     private static String parameters(Class<?>[] types) {

@@ -1,13 +1,13 @@
 import java.util.Random;
 
-/** Long runs of calls, wild ones among them, against the plain model; and copies that must agree. */
+/** Runs of calls, wild ones among them, against the plain model; and copies that must agree. */
 public final class ModelTest {
-    private static final int RUNS = 3000;
+    private static final int RUNS = 12000;
     private static final int[] ODD = {Integer.MIN_VALUE, -2, -1, 3, 6, 7, 19, 256, Integer.MAX_VALUE};
 
     private final Due due;
     private final Random random;
-    private final TombstoneSites x;
+    private final CountedSites x;
     private final PlainModel model;
     private final int run;
     private final int erases;
@@ -18,31 +18,35 @@ public final class ModelTest {
         this.run = run;
         random = new Random(run);
         int sites = run % 3 == 0 ? 2 : 3;
-        x = new TombstoneSites(sites);
+        x = new CountedSites(sites);
         model = new PlainModel(sites);
         erases = random.nextInt(5);
         nearness = 1 + random.nextInt(4);
     }
 
     public static void main(String[] args) {
-        Due due = new Due("ModelTest");
-        for (int run = 0; run < RUNS && due.allRight(); run++) {
-            new ModelTest(due, run).walk();
-        }
-        due.finish();
+        Sentences model = new Sentences("ModelTest");
+        model.holds("all that the document says, in random runs", ModelTest::walkAll);
+        model.finish();
     }
 
+    private static void walkAll(Due due) {
+        for (int run = 0; run < RUNS && (run == 0 || due.allRight()); run++) {
+            new ModelTest(due, run).walk();
+        }
+    }
+
+    /** A look at everything costs half of an object's calls, so there is one, at a chance moment or at the end. */
     private void walk() {
-        int calls = 20 + random.nextInt(100);
+        int calls = 5 + random.nextInt(100);
         for (int n = 0; n < calls; n++) {
             change();
-            if (n % 4 == 0) {
-                compareAll();
-            }
+            ask(site(), site(), odd(random.nextInt(6)));
         }
-        compareAll();
         if (run % 2 == 0) {
             bringTogether();
+        } else {
+            compareAll();
         }
     }
 
@@ -80,6 +84,22 @@ public final class ModelTest {
         }
     }
 
+    private void ask(int site, int of, int k) {
+        int i = odd(random.nextInt(19));
+        switch (random.nextInt(10)) {
+            case 0 -> is("code", x.code(site, k), model.code(site, k));
+            case 1 -> is("executed", x.executed(site, of), model.executed(site, of));
+            case 2 -> is("waiting", x.waiting(site), model.waiting(site));
+            case 3 -> is("place", x.place(site, of, k), model.place(site, of, k));
+            case 4 -> is("length", x.length(site), model.length(site));
+            case 5 -> is("at", x.at(site, i), model.at(site, i));
+            case 6 -> is("cells", x.cells(site), model.cells(site));
+            case 7 -> is("cell", x.cell(site, i), model.cell(site, i));
+            case 8 -> is("stable", x.stable(site, of), model.stable(site, of));
+            default -> is("sites", x.sites(), model.sites());
+        }
+    }
+
     private int site() {
         return odd(random.nextInt(model.count));
     }
@@ -89,21 +109,21 @@ public final class ModelTest {
     }
 
     private void compareAll() {
-        for (int s = -1; s <= 3; s++) {
+        for (int s = 0; s < model.count; s++) {
             is("waiting", x.waiting(s), model.waiting(s));
             is("length", x.length(s), model.length(s));
             is("cells", x.cells(s), model.cells(s));
-            for (int i = -1; i <= 19; i++) {
+            for (int i = 0; i < model.cells(s); i++) {
                 is("at", x.at(s, i), model.at(s, i));
                 is("cell", x.cell(s, i), model.cell(s, i));
             }
-            for (int k = -1; k <= 6; k++) {
+            for (int k = 0; k < 6; k++) {
                 is("code", x.code(s, k), model.code(s, k));
-                for (int of = -1; of <= 3; of++) {
+                for (int of = 0; of < model.count; of++) {
                     is("place", x.place(s, of, k), model.place(s, of, k));
                 }
             }
-            for (int of = -1; of <= 3; of++) {
+            for (int of = 0; of < model.count; of++) {
                 is("executed", x.executed(s, of), model.executed(s, of));
                 is("stable", x.stable(s, of), model.stable(s, of));
             }
@@ -113,16 +133,25 @@ public final class ModelTest {
     private void bringTogether() {
         for (int to = 0; to < model.count; to++) {
             for (int from = 0; from < model.count; from++) {
-                for (int k = 5; k >= 0; k--) {
+                for (int k = 5; k >= 0 && from != to; k--) {
                     is("deliver", x.deliver(to, from, k), model.deliver(to, from, k));
                 }
             }
         }
         compareAll();
         for (int s = 0; s < model.count; s++) {
-            is("waiting at the end", x.waiting(s), 0);
-            due.same("run " + run + ": copy " + s, Dump.cells(x, s), Dump.cells(x, 0));
+            is("nothing waits at the end", model.waiting(s), 0);
+            due.same("run " + run + ": copy " + s, cells(s), cells(0));
         }
+    }
+
+    /** The model's cells, which are known to be the object's. */
+    private String cells(int site) {
+        StringBuilder text = new StringBuilder();
+        for (int i = 0; i < model.cells(site); i++) {
+            text.append(model.cell(site, i)).append(' ');
+        }
+        return text.toString();
     }
 
     private void is(String call, long got, long want) {
