@@ -490,20 +490,8 @@ public final class EdgesTest {
         due.same("the copies", Dump.text(x, 1), Dump.text(x, 0));
     }
 
-    private static CountedSites eighteenCells() {
-        CountedSites x = new CountedSites(3);
-        for (int k = 0; k < 18; k++) {
-            x.insert(k % 3, 0, 65 + k);
-        }
-        x.sync(1, 0);
-        x.sync(2, 1);
-        x.sync(1, 2);
-        x.sync(0, 2);
-        return x;
-    }
-
     private static void lengths(Due due) {
-        CountedSites x = eighteenCells();
+        CountedSites x = Scenes.eighteenCells();
         for (int s = 0; s < 3; s++) {
             due.is("eighteen", x.length(s), 18);
             due.same("text", Dump.text(x, s), "PMJGDAQNKHEBROLIFC");
@@ -519,9 +507,10 @@ public final class EdgesTest {
     }
 
     private static void atEnds(Due due) {
-        CountedSites x = eighteenCells();
+        CountedSites x = Scenes.eighteenCells();
         due.is("the first", x.at(1, 0), 'P');
         due.is("the last of eighteen", x.at(1, 17), 'C');
+        due.is("none behind eighteen", x.at(1, 18), NONE);
         CountedSites y = Scenes.shared(2, "abcde");
         y.erase(1, 4);
         y.erase(1, 2);
@@ -532,7 +521,7 @@ public final class EdgesTest {
     }
 
     private static void cellCounts(Due due) {
-        CountedSites x = eighteenCells();
+        CountedSites x = Scenes.eighteenCells();
         for (int s = 0; s < 3; s++) {
             due.is("eighteen", x.cells(s), 18);
         }
@@ -544,7 +533,7 @@ public final class EdgesTest {
     }
 
     private static void cellEnds(Due due) {
-        CountedSites x = eighteenCells();
+        CountedSites x = Scenes.eighteenCells();
         due.is("the first", x.cell(2, 0), 'P');
         due.is("the last of eighteen", x.cell(2, 17), 'C');
         due.is("none behind it", x.cell(2, 18), 0);

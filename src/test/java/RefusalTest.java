@@ -56,6 +56,8 @@ public final class RefusalTest {
             int site = s;
             refused("3: it has made 6: site " + s, () -> Scenes.full(3), x -> x.insert(site, 0, 'z'));
         }
+        refused("3: it has made 6: eighteen cells", Scenes::eighteenCells, x -> x.insert(0, 18, 'z'));
+        refused("3: i is more than eighteen", Scenes::eighteenCells, x -> x.insert(0, 19, 'z'));
         refused("3: it has made 6: of two", () -> Scenes.full(2), x -> x.insert(1, 2, 'z'));
         refused("3: all reasons at once", () -> Scenes.full(2), x -> x.insert(2, -1, 0));
     }
@@ -78,6 +80,7 @@ public final class RefusalTest {
             int site = s;
             refused("4: it has made 6: site " + s, () -> Scenes.full(3), x -> x.erase(site, 0));
         }
+        refused("4: i is more than eighteen less 1", Scenes::eighteenCells, x -> x.erase(0, 18));
         refused("4: it has made 6: of two", () -> Scenes.full(2), x -> x.erase(1, 1));
     }
 
@@ -136,23 +139,25 @@ public final class RefusalTest {
         taken("6: and so is one that waits elsewhere", 3, x -> x.arrive(2, 12 + 128 + 3 * 2097152), 0);
     }
 
-    /** Each bit of the code of site 0's third operation, and of site 1's first, turned. */
+    /** To sites where nothing has arrived, so that no other reason can hide that a wrong code was taken. */
     private void arriveOfNothing() {
         long third = 8 + 64 + 2 * 128 + 8192 * 'c' + 2 * 2097152;
         long first = 65 + 2 * 128 + 8192 * 'd' + 2 * 2097152;
-        taken("6: this code has an operation", 3, x -> x.arrive(1, third), 2);
+        taken("6: this code has an operation", 3, x -> x.arrive(2, third), 0);
         taken("6: this one too", 3, x -> x.arrive(0, first), 1);
         for (int bit = 0; bit < 64; bit++) {
             long turned = 1L << bit;
-            refused("6: no operation has this code: bit " + bit, 3, x -> x.arrive(1, third ^ turned));
+            refused("6: no operation has this code: bit " + bit, 3, x -> x.arrive(2, third ^ turned));
             refused("6: no operation has this code: other bit " + bit, 3, x -> x.arrive(0, first ^ turned));
         }
-        for (long code : new long[] {0, -1, 3, 64, LEAST, MOST, Long.MIN_VALUE, Long.MAX_VALUE, third + (1L << 32), -third}) {
-            refused("6: no operation has this code: " + code, 3, x -> x.arrive(1, code));
+        for (long code : new long[] {0, -1, 3, 64, LEAST, MOST, Long.MIN_VALUE, Long.MAX_VALUE, -third, -first}) {
+            refused("6: no operation has this code: 2, " + code, 3, x -> x.arrive(2, code));
+            refused("6: no operation has this code: 0, " + code, 3, x -> x.arrive(0, code));
         }
-        refused("6: the code of one that is not made yet", 3, x -> x.arrive(1, 16 + 64 + 8192 * 'z' + 4 * 2097152));
+        refused("6: the code of one that is not made yet", 3, x -> x.arrive(2, 16 + 64 + 8192 * 'z' + 4 * 2097152));
         refused("6: the code of another character", 3, x -> x.arrive(2, 64 + 8192 * 'b'));
-        refused("6: NONE, the code of none", 3, x -> x.arrive(1, x.code(0, 5)));
+        refused("6: the code of another site", 3, x -> x.arrive(2, 65 + 8192 * 'a'));
+        refused("6: NONE, the code of none", 3, x -> x.arrive(2, x.code(0, 5)));
         refused("6: nothing was made", () -> new CountedSites(3), x -> x.arrive(1, 64 + 8192 * 'a'));
         refused("6: a third site's in two", 2, x -> x.arrive(0, 66 + 8192 * 'e'));
     }
@@ -225,6 +230,7 @@ public final class RefusalTest {
         for (int i : new int[] {2, 3, 18, MOST}) {
             refused("13: there is none: " + i, 3, x -> x.at(0, i));
         }
+        refused("13: there is none behind eighteen", Scenes::eighteenCells, x -> x.at(0, 18));
         refused("13: nothing is there", () -> new CountedSites(3), x -> x.at(0, 0));
         refused("13: nothing is visible", RefusalTest::allInvisible, x -> x.at(0, 0));
     }

@@ -51,4 +51,17 @@ final class Scenes {
         }
         return x;
     }
+
+    /** Each site has made six inserts, and all know all of them: no cell more can be. */
+    static CountedSites eighteenCells() {
+        CountedSites x = new CountedSites(3);
+        for (int k = 0; k < 18; k++) {
+            x.insert(k % 3, 0, 65 + k);
+        }
+        x.sync(1, 0);
+        x.sync(2, 1);
+        x.sync(1, 2);
+        x.sync(0, 2);
+        return x;
+    }
 }
