@@ -97,6 +97,7 @@ public final class RefusalTest {
         }
         refused("5: they are the same, and there is no such operation", 3, x -> x.deliver(2, 2, 1));
         refused("5: neither site", 3, x -> x.deliver(-1, -1, 0));
+        refused("5: no site from, though 6 more would be site 0's first", 3, x -> x.deliver(2, -1, 6));
     }
 
     private void deliverOfNothing() {
@@ -187,6 +188,7 @@ public final class RefusalTest {
         for (int k : new int[] {-1, 6, 7, 12, -6}) {
             refused("8: there is none though all made 6: " + k, () -> Scenes.full(3), x -> x.code(1, k));
         }
+        refused("8: no such site, though 6 more would be site 0's first", 3, x -> x.code(-1, 6));
         refused("8: nothing was made", () -> new CountedSites(2), x -> x.code(0, 0));
     }
 
@@ -216,6 +218,7 @@ public final class RefusalTest {
         refused("11: it was not executed: it waits", 3, x -> x.place(1, 0, 3));
         refused("11: it was not executed: it has not arrived", 3, x -> x.place(1, 0, 2));
         refused("11: it was not executed: nothing has arrived", 3, x -> x.place(2, 0, 0));
+        refused("11: no such site of, though 6 more would be site 0's first", 3, x -> x.place(0, -1, 6));
         refused("11: nothing was made", () -> new CountedSites(2), x -> x.place(0, 0, 0));
     }
 
