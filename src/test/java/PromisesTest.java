@@ -22,6 +22,7 @@ public final class PromisesTest {
         promises.holds("15: cell", PromisesTest::cell);
         promises.holds("16: stable", PromisesTest::stable);
         promises.holds("16: stable of three sites", PromisesTest::stableOfThree);
+        promises.holds("the example in README.md", PromisesTest::example);
         promises.finish();
     }
 
@@ -247,5 +248,20 @@ public final class PromisesTest {
         due.is("site 2's last knew both", x.stable(1, 0), 2);
         x.sync(0, 2);
         due.is("the last one counts", x.stable(0, 0), 2);
+    }
+
+    private static void example(Due due) {
+        CountedSites x = new CountedSites(2);
+        due.is("a", x.insert(0, 0, 'a'), 0);
+        due.is("b", x.insert(1, 0, 'b'), 0);
+        due.is("b at site 0", x.sync(0, 1), 1);
+        due.is("a at site 1", x.deliver(1, 0, 0), 1);
+        due.is("a", x.at(0, 0), 'a');
+        due.is("b behind it", x.at(1, 1), 'b');
+        due.is("the erase", x.erase(1, 0), 1);
+        due.is("the cell", x.cell(1, 0), -'a');
+        due.is("the erase at site 0", x.arrive(0, x.code(1, 1)), 1);
+        due.is("what is left", x.length(0), 1);
+        due.is("as at site 1", x.length(1), 1);
     }
 }

@@ -45,6 +45,7 @@ public final class TermsTest {
         terms.holds("all such y give the same place", TermsTest::samePlace);
         terms.holds("in a context when that says more than its number", TermsTest::inAContext);
         terms.holds("copies which have seen the same operations are the same", TermsTest::copiesAreTheSame);
+        terms.holds("the same, for any three operations made at once, in any order", TermsTest::anyThreeInAnyOrder);
     }
 
     private static void arrivals(Sentences terms) {
@@ -527,6 +528,38 @@ public final class TermsTest {
                     : "-100 -99 98 97 -104 -103 102 101 -108 -107 106 105");
             }
         }
+    }
+
+    /**
+     * Five cells are enough for all cases: places further apart than two do not meet by moving past
+     * two operations. That all such y give the same place follows, for y and z are then, with x, three
+     * operations of three sites of which none knew of another.
+     */
+    private static void anyThreeInAnyOrder(Due due) {
+        for (int n = 0; n < 11 * 11 * 11; n++) {
+            int[] made = {n % 11, n / 11 % 11, n / 121};
+            String upward = afterAllThree(due, made, 1);
+            String downward = afterAllThree(due, made, 2);
+            due.same("operations " + n + ", in the other orders", downward, upward);
+        }
+    }
+
+    /** The cells of all sites, where each had its own, then the one a step further, then the last. */
+    private static String afterAllThree(Due due, int[] made, int step) {
+        CountedSites x = Scenes.shared(3, "abcde");
+        int[] number = new int[3];
+        for (int s = 0; s < 3; s++) {
+            number[s] = made[s] < 6 ? x.insert(s, made[s], 'x' + s) : x.erase(s, made[s] - 6);
+        }
+        for (int s = 0; s < 3; s++) {
+            int next = (s + step) % 3;
+            int last = (s + 2 * step) % 3;
+            due.is("the next one", x.deliver(s, next, number[next]), 1);
+            due.is("the last one", x.deliver(s, last, number[last]), 1);
+        }
+        due.same("copy 1", Dump.cells(x, 1), Dump.cells(x, 0));
+        due.same("copy 2", Dump.cells(x, 2), Dump.cells(x, 0));
+        return Dump.cells(x, 0);
     }
 
     private static void arrivesOnce(Due due) {
